@@ -1,4 +1,3 @@
-import java.util.Arrays;
 import java.util.NoSuchElementException;
 
 /** A map of spots with heights: triangles, heights between the spots, contours and labels. */
@@ -155,15 +154,6 @@ public final class SpotContours {
         return x >= 0 && x < SIDE && y >= 0 && y < SIDE;
     }
 
-    /** A crossing is held as one number, its pair: 16 times its high spot, + the low one. */
-    private static int highOf(int pair) {
-        return pair / MOST_SPOTS;
-    }
-
-    private static int lowOf(int pair) {
-        return pair % MOST_SPOTS;
-    }
-
     private static boolean isHeight(int height) {
         return height >= 0 && height <= TOP_HEIGHT;
     }
@@ -173,6 +163,15 @@ public final class SpotContours {
             throw new IllegalArgumentException();
         }
         lines.trace(spots, mesh, level);
+    }
+
+    /** A crossing is held as one number, its pair: 16 times its high spot, + the low one. */
+    private static int highOf(int pair) {
+        return pair / MOST_SPOTS;
+    }
+
+    private static int lowOf(int pair) {
+        return pair % MOST_SPOTS;
     }
 
     private int pairAt(int k, int j) {
@@ -252,14 +251,14 @@ public final class SpotContours {
             return (xs[b] - xs[a]) * (y - ys[a]) - (ys[b] - ys[a]) * (x - xs[a]);
         }
 
-        /** Whether d is in the circle through a, b, c, which are not in a line. */
+        /** Whether d is in the circle through a, b, c, which are not in a line, and of which a has the least number. */
         boolean isInCircle(int a, int b, int c, int d) {
             long depth = depthInCircle(a, b, c, d);
             if (depth != 0) {
                 return depth > 0;
             }
-            int least = Math.min(Math.min(a, b), Math.min(c, d));
-            return least != d && least != opposite(a, b, c, d);
+            // So the least of the four is a or d.
+            return a < d && !areOpposite(a, d, b, c);
         }
 
         /** More than 0 when d is nearer to the middle than a, b, c, 0 when as near, less when farther. */
@@ -276,15 +275,9 @@ public final class SpotContours {
             return dx * dx + dy * dy;
         }
 
-        /** The one of a, b, c opposite d, when all four are on one circle: seen from d, it is the middle one. */
-        private int opposite(int a, int b, int c, int d) {
-            boolean isBLeftOfA = turn(d, a, b) > 0;
-            boolean isCLeftOfA = turn(d, a, c) > 0;
-            boolean isCLeftOfB = turn(d, b, c) > 0;
-            if (isBLeftOfA != isCLeftOfA) {
-                return a;
-            }
-            return isBLeftOfA == isCLeftOfB ? b : c;
+        /** Whether the line through a and d parts b from c, when all four are on one circle. */
+        private boolean areOpposite(int a, int d, int b, int c) {
+            return turn(a, d, b) > 0 != turn(a, d, c) > 0;
         }
 
         int crossingX(int pair, int level) {
@@ -300,6 +293,7 @@ public final class SpotContours {
             int low = lowOf(pair);
             int rise = heights[high] - heights[low];
             if (rise <= 0) {
+                // No crossing is so; but the divisor must not be 0.
                 return axis[low];
             }
             int part = (axis[high] - axis[low]) * (2 * level + 1 - 2 * heights[low]);
@@ -318,7 +312,7 @@ public final class SpotContours {
         private int count;
 
         Mesh() {
-            Arrays.fill(rightOf, NONE);
+            clear();
         }
 
         int size() {
@@ -343,8 +337,7 @@ public final class SpotContours {
         }
 
         void rebuild(Spots spots) {
-            count = 0;
-            Arrays.fill(rightOf, NONE);
+            clear();
             for (int a = 0; a < spots.size(); a++) {
                 for (int b = a + 1; b < spots.size(); b++) {
                     for (int c = b + 1; c < spots.size(); c++) {
@@ -353,6 +346,13 @@ public final class SpotContours {
                         }
                     }
                 }
+            }
+        }
+
+        private void clear() {
+            count = 0;
+            for (int i = 0; i < PAIRS; i++) {
+                rightOf[i] = NONE;
             }
         }
 
@@ -522,22 +522,24 @@ public final class SpotContours {
 
         /** The crossing that this one goes on to, or NONE at the border. */
         private int behind(Mesh mesh, int pair) {
-            return otherPair(pair, mesh.thirdRightOf(lowOf(pair), highOf(pair)));
+            int high = highOf(pair);
+            int low = lowOf(pair);
+            return otherPair(high, low, mesh.thirdRightOf(low, high));
         }
 
         /** The crossing that goes on to this one, or NONE at the border. */
         private int before(Mesh mesh, int pair) {
-            return otherPair(pair, mesh.thirdRightOf(highOf(pair), lowOf(pair)));
+            int high = highOf(pair);
+            int low = lowOf(pair);
+            return otherPair(high, low, mesh.thirdRightOf(high, low));
         }
 
         /** The other crossing in the triangle of a crossing and a third spot. */
-        private int otherPair(int pair, int third) {
+        private int otherPair(int high, int low, int third) {
             if (third == NONE) {
                 return NONE;
             }
-            return isHigh[third]
-                    ? MOST_SPOTS * third + lowOf(pair)
-                    : MOST_SPOTS * highOf(pair) + third;
+            return isHigh[third] ? MOST_SPOTS * third + low : MOST_SPOTS * high + third;
         }
     }
 

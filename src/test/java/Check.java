@@ -12,7 +12,7 @@ final class Check {
     private int made;
     private int wrong;
 
-    /** What a call answers, or the simple name of the exception that it throws. */
+    /** What a call answers, or the name of the exception that it throws. */
     static String outcome(Call call) {
         try {
             return String.valueOf(call.answer());

@@ -52,6 +52,7 @@ public final class HeightTest {
             }
         }
         CHECK.answers(5, "just at the border", () -> map.at(15, 15));
+        CHECK.fails(Check.ELEMENT, "beside 27 triangles", () -> Maps.mostTriangles().at(0, 63));
     }
 
     private static void afterRaise() {

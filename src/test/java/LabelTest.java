@@ -94,7 +94,8 @@ public final class LabelTest {
         CHECK.answers(20, "labels", map::labels);
         CHECK.answers(0, "none comes, so none is too many", () -> map.label(25));
         CHECK.answers(0, "no contour", () -> map.label(990));
-        CHECK.fails(Check.STATE, "one more", () -> map.label(500));
+        CHECK.fails(Check.STATE, "just one more", () -> map.label(765));
+        CHECK.fails(Check.STATE, "several more", () -> map.label(500));
         CHECK.fails(Check.ARGUMENT, "no level", () -> map.label(999));
         CHECK.answers(20, "labels", map::labels);
         CHECK.answers(775, "the last one", () -> map.labelOf(19, 0));

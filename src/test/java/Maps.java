@@ -31,6 +31,15 @@ final class Maps {
         return map;
     }
 
+    /** All 16 spots with as many triangles as there can be: three spots are at the border. */
+    static SpotContours mostTriangles() {
+        SpotContours map = of(0, 0, 0, 63, 0, 0, 31, 63, 0);
+        for (int i = 0; i < 13; i++) {
+            map.spot(25 + i * 5 % 13, 10 + i * 3, 0);
+        }
+        return map;
+    }
+
     /** The triangles as text: "0,1,3 1,2,3". */
     static String triangles(SpotContours map) {
         StringBuilder text = new StringBuilder();

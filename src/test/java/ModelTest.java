@@ -14,13 +14,14 @@ public final class ModelTest {
     private final int kind;
     private final SpotContours map = new SpotContours();
     private final Model model = new Model();
-    /** A few levels only, so that calls speak of the same contours. */
-    private final int[] levels = new int[4];
+    private final int[] levels;
 
     private ModelTest(Check check, int run) {
         this.check = check;
         random = new Random(run);
         kind = run % 6;
+        // In most runs a few levels only, so that calls speak of the same contours.
+        levels = new int[run % 4 == 0 ? 60 : 4];
         for (int i = 0; i < levels.length; i++) {
             levels[i] = random.nextInt(heights());
         }
@@ -38,12 +39,18 @@ public final class ModelTest {
         for (int i = 0; i < CALLS; i++) {
             int[] a = new int[4];
             a[0] = i < 20 && run % 3 > 0 ? 0 : random.nextInt(15);
+            a[0] = i > 300 && letsLabelsGo(a[0]) && random.nextInt(20) > 0 ? 10 : a[0];
             fillArguments(a);
             String what = "run " + run + ", call " + i + ": " + name(a);
             check.same(Check.outcome(() -> onModel(a)), what, Check.outcome(() -> onMap(a)));
         }
         check.same(String.valueOf(model.doubleHullArea()), "run " + run + ": the area of all triangles",
                 String.valueOf(model.doubleArea()));
+    }
+
+    /** Such calls are rare in the end of a run, so that there come to be 20 labels. */
+    private static boolean letsLabelsGo(int call) {
+        return call == 0 || call == 1 || call == 13;
     }
 
     private int heights() {

@@ -48,10 +48,7 @@ public final class TriangleTest {
     }
 
     private static void mostTriangles() {
-        SpotContours map = Maps.of(0, 0, 0, 63, 0, 0, 31, 63, 0);
-        for (int i = 0; i < 13; i++) {
-            map.spot(25 + i * 5 % 13, 10 + i * 3, 0);
-        }
+        SpotContours map = Maps.mostTriangles();
         CHECK.answers(27, "16 spots with three at the border", map::triangles);
         CHECK.answers(15, "the greatest corner", () -> map.corner(26, 2));
         CHECK.fails(Check.INDEX, "no 28th", () -> map.corner(27, 0));
