@@ -9,6 +9,7 @@ final class Check {
     static final Class<?> INDEX = IndexOutOfBoundsException.class;
     static final Class<?> ELEMENT = java.util.NoSuchElementException.class;
 
+    private String sentence = "";
     private int made;
     private int wrong;
 
@@ -19,6 +20,19 @@ final class Check {
         } catch (RuntimeException e) {
             return e.getClass().getName();
         }
+    }
+
+    /** Runs the test of one sentence of the document, so that what is wrong is told with the sentence. */
+    void sentence(String words, Runnable test) {
+        sentence = "\"" + words + "\" ";
+        int before = made;
+        try {
+            test.run();
+        } catch (RuntimeException e) {
+            same("an end", "the test", e.toString());
+        }
+        holds("the test has checks", made > before);
+        sentence = "";
     }
 
     void answers(int due, String what, Call call) {
@@ -33,7 +47,7 @@ final class Check {
         made++;
         if (!due.equals(got)) {
             wrong++;
-            System.out.println(what + ": got " + got + ", due is " + due);
+            System.out.println(sentence + what + ": got " + got + ", due is " + due);
         }
     }
 

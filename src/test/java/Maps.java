@@ -31,6 +31,31 @@ final class Maps {
         return map;
     }
 
+    /** Spots in a line, with the heights in turn, or all with 0. */
+    static SpotContours line(int count, int... heights) {
+        SpotContours map = new SpotContours();
+        for (int i = 0; i < count; i++) {
+            map.spot(4 * i, 2 * i, heights.length == 0 ? 0 : heights[i % heights.length]);
+        }
+        return map;
+    }
+
+    /** A grid with 19 labels. */
+    static SpotContours nineteenLabels() {
+        SpotContours map = grid(0, 600, 200, 800, 400);
+        for (int level = 50; level <= 250; level += 50) {
+            map.label(level);
+        }
+        return map;
+    }
+
+    /** The same with one more. */
+    static SpotContours twentyLabels() {
+        SpotContours map = nineteenLabels();
+        map.label(775);
+        return map;
+    }
+
     /** All 16 spots with as many triangles as there can be: three spots are at the border. */
     static SpotContours mostTriangles() {
         SpotContours map = of(0, 0, 0, 63, 0, 0, 31, 63, 0);
