@@ -12,20 +12,23 @@ public final class ContourTest {
         CHECK.sentence("(So the high ground is on the left of who goes.)", ContourTest::highGroundOnTheLeft);
         CHECK.sentence("One that begins at the border begins there", ContourTest::beginsAtTheBorder);
         CHECK.sentence("a ring with its least crossing", ContourTest::rings);
-        CHECK.sentence("is less than another one if u is less, or u the same and v less", ContourTest::leastByLesserSpot);
+        CHECK.sentence("is less than another one if u is less, or u the same and v less",
+                ContourTest::leastByLesserSpot);
         CHECK.sentence("Contours of a level are numbered by their least crossings.", ContourTest::numbered);
-        CHECK.sentence("the one with the least x is high", ContourTest::hollows);
+        CHECK.sentence("A ring is a HOLLOW when", ContourTest::hollows);
         CHECK.sentence("(any of them, if there are several)", ContourTest::severalWithTheLeastX);
         CHECK.sentence("of all the spots of its crossings", ContourTest::ringsInOneAnother);
         CHECK.sentence("THE PLACE of a crossing of h and w", ContourTest::places);
         CHECK.sentence("rounded down (z: heights); y likewise", ContourTest::placesRoundedDown);
         CHECK.sentence("How many contours a level has (0 without triangles).", ContourTest::withoutTriangles);
         CHECK.sentence("(contours) IllegalArgumentException when it is no level.", ContourTest::contoursOfNoLevel);
-        CHECK.sentence("1000 more if it is a ring, and 1000 more again (so 2000) if it is a hollow", ContourTest::thousands);
+        CHECK.sentence("1000 more if it is a ring, and 1000 more again (so 2000) if it is a hollow",
+                ContourTest::thousands);
         CHECK.sentence("(contour) IllegalArgumentException when it is no level", ContourTest::contourOfNoLevel);
         CHECK.sentence("(contour) IndexOutOfBoundsException when there is no such contour.", ContourTest::noContour);
         CHECK.sentence("16 times its lesser spot, + the other one", ContourTest::lesserSpotFirst);
-        CHECK.sentence("(crossing) IllegalArgumentException, first, when it is no level", ContourTest::crossingOfNoLevel);
+        CHECK.sentence("(crossing) IllegalArgumentException, first, when it is no level",
+                ContourTest::crossingOfNoLevel);
         CHECK.sentence("(crossing) when there is no such contour or crossing.", ContourTest::noCrossing);
         CHECK.sentence("64 times x, + y", ContourTest::leastAndGreatestPlace);
         CHECK.sentence("Throws as crossing() does. (no level)", ContourTest::placeOfNoLevel);
@@ -92,16 +95,19 @@ public final class ContourTest {
     }
 
     private static void rings() {
-        SpotContours mixed = Maps.of(20, 20, 9, 30, 30, 0, 10, 10, 0, 30, 10, 0, 10, 30, 0);
-        CHECK.same("1004: 0-1 0-4 0-2 0-3", "the middle spot has the least number", Maps.contours(mixed, 4));
+        CHECK.same("1004: 0-4 1-4 2-4 3-4", "a ring of four", Maps.contours(Maps.hill(), 40));
+        SpotContours far = Maps.of(30, 30, 0, 10, 30, 0, 10, 10, 0, 30, 10, 0, 20, 20, 90);
+        CHECK.same("1004: 0-4 1-4 2-4 3-4", "with the least at the far corner", Maps.contours(far, 40));
         SpotContours three = Maps.of(0, 0, 0, 60, 0, 0, 0, 60, 0, 10, 10, 5);
         CHECK.same("1003: 0-3 1-3 2-3", "a ring of three", Maps.contours(three, 2));
     }
 
-    /** The edge 0-5 is less than 1-2, though its other spot is not. */
+    /** The edge 0-5 is less than 1-2, though its other spot is not; 0-1 is less than 0-2. */
     private static void leastByLesserSpot() {
         SpotContours ring = Maps.of(0, 30, 0, 60, 30, 0, 40, 30, 9, 30, 50, 0, 30, 10, 0, 20, 30, 9);
         CHECK.same("1006: 0-5 4-5 2-4 1-2 2-3 3-5", "a ring around two", Maps.contours(ring, 4));
+        SpotContours mixed = Maps.of(20, 20, 9, 30, 30, 0, 10, 10, 0, 30, 10, 0, 10, 30, 0);
+        CHECK.same("1004: 0-1 0-4 0-2 0-3", "u is the same", Maps.contours(mixed, 4));
         CHECK.same("3: 6-7 5-7 0-5; 3: 1-2 2-3 3-4", "two from border to border", Maps.contours(fourColumns(), 4));
     }
 
@@ -160,13 +166,13 @@ public final class ContourTest {
 
     /** Around a middle spot four others, and four more around these. */
     private static void ringsInOneAnother() {
-        SpotContours map = Maps.of(0, 0, 0, 63, 0, 0, 63, 63, 0, 0, 63, 0, 20, 20, 90, 44, 20, 90, 44, 44, 90, 20, 44, 90,
-                32, 32, 0);
+        SpotContours map = Maps.of(0, 0, 0, 63, 0, 0, 63, 63, 0, 0, 63, 0, 20, 20, 90, 44, 20, 90, 44, 44, 90, 20, 44,
+                90, 32, 32, 0);
         CHECK.answers(2, "contours", () -> map.contours(40));
         CHECK.answers(1008, "the outer one is a hill", () -> map.contour(40, 0));
         CHECK.answers(2004, "the inner one is a hollow", () -> map.contour(40, 1));
-        SpotContours turned = Maps.of(0, 0, 90, 63, 0, 90, 63, 63, 90, 0, 63, 90, 20, 20, 0, 44, 20, 0, 44, 44, 0, 20, 44,
-                0, 32, 32, 90);
+        SpotContours turned = Maps.of(0, 0, 90, 63, 0, 90, 63, 63, 90, 0, 63, 90, 20, 20, 0, 44, 20, 0, 44, 44, 0, 20,
+                44, 0, 32, 32, 90);
         CHECK.answers(2, "contours", () -> turned.contours(40));
         CHECK.answers(2008, "the outer one is a hollow", () -> turned.contour(40, 0));
         CHECK.answers(1004, "the inner one is a hill", () -> turned.contour(40, 1));
@@ -275,7 +281,8 @@ public final class ContourTest {
             CHECK.fails(Check.ARGUMENT, "level " + level, () -> map.crossing(level, 0, 0));
             CHECK.fails(Check.ARGUMENT, "level " + level + " and no contour", () -> map.crossing(level, -1, 0));
             CHECK.fails(Check.ARGUMENT, "level " + level + " and no crossing", () -> map.crossing(level, 0, 4));
-            CHECK.fails(Check.ARGUMENT, "level " + level + ", no spots", () -> new SpotContours().crossing(level, 0, 0));
+            CHECK.fails(Check.ARGUMENT, "level " + level + ", no spots",
+                    () -> new SpotContours().crossing(level, 0, 0));
         }
     }
 

@@ -3,7 +3,7 @@ public final class HeightTest {
     private static final Check CHECK = new Check();
 
     public static void main(String[] args) {
-        CHECK.sentence("THE HEIGHT AT a place in a triangle is that on the plane", HeightTest::inATriangle);
+        CHECK.sentence("is that on the plane through its three spots", HeightTest::inATriangle);
         CHECK.sentence("(its edges belong to it)", HeightTest::edgesBelong);
         CHECK.sentence("rounded down", HeightTest::roundedDown);
         CHECK.sentence("The height at a place (any ints).", HeightTest::anyInts);

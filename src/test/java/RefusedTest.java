@@ -21,7 +21,7 @@ public final class RefusedTest {
         refuses(Check.ARGUMENT, "spot, there is one", map -> map.spot(21, 21, 1));
         refuses(Check.STATE, "spot, there are 16", map -> map.spot(1, 1, 1));
         refuses(Check.INDEX, "raise, no spot", map -> map.raise(16, 1));
-        refuses(Check.ARGUMENT, "raise, no height", map -> map.raise(15, 1000));
+        refuses(Check.ARGUMENT, "raise, no height", map -> map.raise(14, 1000));
         refuses(Check.INDEX, "corner, no triangle", map -> map.corner(18, 0));
         refuses(Check.INDEX, "corner, no k", map -> map.corner(0, 3));
         refuses(Check.INDEX, "edge, no spot", map -> map.edge(0, 16));

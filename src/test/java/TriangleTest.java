@@ -21,7 +21,8 @@ public final class TriangleTest {
         CHECK.sentence("How many triangles there are.", TriangleTest::mostTriangles);
         CHECK.sentence("Spot k (0 .. 2, rising) of triangle i.", TriangleTest::corners);
         CHECK.sentence("IndexOutOfBoundsException when there is no such triangle or k.", TriangleTest::noCorner);
-        CHECK.sentence("Of the edge between two spots (in either order): how many triangles have it", TriangleTest::edges);
+        CHECK.sentence("Of the edge between two spots (in either order): how many triangles have it",
+                TriangleTest::edges);
         CHECK.sentence("0 if there is none", TriangleTest::noEdge);
         CHECK.sentence("or both are the same", TriangleTest::sameSpotTwice);
         CHECK.sentence("IndexOutOfBoundsException when there is no such spot.", TriangleTest::edgeOfNoSpot);
